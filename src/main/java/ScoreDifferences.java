@@ -554,7 +554,9 @@ public final class ScoreDifferences {
                 return NONE;
             }
             history.push(object, member, now.rows[member][object], keptAt);
-            batchKnown = batchBegun ? Math.min(batchKnown + 1, MOST_KNOWN) : 0;
+            if (batchBegun) {
+                batchKnown = Math.min(batchKnown + 1, MOST_KNOWN);
+            }
             layOut(object, member, v);
             for (int r = 0; r < book.size; r++) {
                 keptAt[r] += gainUnlessForgotten(r);
@@ -591,7 +593,6 @@ public final class ScoreDifferences {
                 takeBack();
             }
             batchBegun = false;
-            batchKnown = 0;
             return made;
         }
 

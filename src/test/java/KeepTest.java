@@ -73,6 +73,8 @@ public final class KeepTest {
         due.is("a 21st", x.keep(0), -4);
         due.is("NONE stands ahead of FULL", x.keep(1), -1);
         due.is("all(4)", x.all(4), 20);
+        due.is("kept(20, 0)", x.kept(20, 0), -1);
+        due.is("then(20, 0, 0)", x.then(20, 0, 0), -1000000);
         for (int i = 0; i < 20; i++) {
             due.is("then", x.then(i, 0, 3), i);
         }
