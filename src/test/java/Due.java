@@ -1,13 +1,23 @@
 /** Compares answers with those that are due, tells the wrong ones and ends a test. */
 final class Due {
-    private int wrong;
+    private String sentence = "";
+    private int sentences;
     private int asked;
+    private int askedAhead;
+    private int wrong;
+
+    /** From here on the answers are due by this sentence of the document. */
+    void sentence(String words) {
+        closeSentence();
+        sentence = words;
+        sentences++;
+        askedAhead = asked;
+    }
 
     void is(String call, long got, long want) {
         asked++;
         if (got != want) {
-            wrong++;
-            System.out.println(call + " answered " + got + ", due is " + want);
+            tell(call + " answered " + got + ", due is " + want);
         }
     }
 
@@ -16,7 +26,20 @@ final class Due {
     }
 
     void finish() {
-        System.out.println(asked + " answers, " + wrong + " wrong");
+        closeSentence();
+        System.out.println(sentences + " sentences, " + asked + " answers, " + wrong + " wrong");
         System.exit(wrong == 0 && asked > 0 ? 0 : 1);
+    }
+
+    /** A sentence for which nothing was asked has no test. */
+    private void closeSentence() {
+        if (sentences > 0 && asked == askedAhead) {
+            tell("nothing was asked");
+        }
+    }
+
+    private void tell(String what) {
+        wrong++;
+        System.out.println((sentence.isEmpty() ? "" : "\"" + sentence + "\": ") + what);
     }
 }

@@ -1,9 +1,16 @@
+import java.util.ArrayList;
+import java.util.List;
 import java.util.Random;
+import java.util.function.ToLongFunction;
 
-/** All promises: runs of 512 random calls, right and wrong ones, answered as the Model answers them. */
+/**
+ * All promises: runs of random calls, right and wrong ones, answered as the Model answers them. Some take an
+ * object's 512 calls; others are shorter and made again, so that all that can be read behind them is compared.
+ */
 public final class RandomRunsTest {
-    private static final int RUNS = 400;
+    private static final int RUNS = 1200;
     private static final int CALLS = 512;
+    private static final int MOST_QUESTIONS = 200;
 
     private final Random random;
     private final ScoreDifferences real = new ScoreDifferences();
@@ -11,22 +18,28 @@ public final class RandomRunsTest {
     private final int objects;
     private final int ruleCount;
     private final boolean wild;
+    private final int length;
     private final Due due;
+    private final List<ToLongFunction<ScoreDifferences>> made = new ArrayList<>();
     private final StringBuilder calls = new StringBuilder();
+    private ScoreDifferences again;
+    private int asked;
 
     private RandomRunsTest(long seed, Due due) {
         random = new Random(seed);
         objects = random.nextInt(5) == 0 ? 41 : random.nextInt(10);
         ruleCount = random.nextInt(5) == 0 ? 13 : random.nextInt(8);
         wild = random.nextBoolean();
+        length = random.nextBoolean() ? CALLS : random.nextInt(CALLS - MOST_QUESTIONS);
         this.due = due;
     }
 
     public static void main(String[] args) {
         Due due = new Due();
         for (int run = 0; run < RUNS; run++) {
-            if (!new RandomRunsTest(run, due).passes()) {
-                System.out.println("in run " + run);
+            RandomRunsTest test = new RandomRunsTest(run, due);
+            if (!test.passes()) {
+                System.out.println(test.calls + "in run " + run);
                 break;
             }
         }
@@ -34,48 +47,53 @@ public final class RandomRunsTest {
     }
 
     private boolean passes() {
-        int made = 0;
-        int ruled = 0;
-        for (int i = 0; i < CALLS; i++) {
-            boolean right;
-            if (made + ruled < objects + ruleCount) {
-                boolean next = random.nextInt(objects + ruleCount - made - ruled) < objects - made;
-                right = next ? object() : rule();
-                made += next ? 1 : 0;
-                ruled += next ? 0 : 1;
-                right = right && (random.nextInt(4) != 0 || early());
-            } else {
+        int objectsToCome = objects;
+        int rulesToCome = ruleCount;
+        boolean right = true;
+        while (right && made.size() < length) {
+            int toCome = objectsToCome + rulesToCome;
+            if (toCome == 0) {
                 right = any();
-            }
-            if (!right || !sameState(i)) {
-                System.out.println(calls);
-                return false;
+            } else if (random.nextInt(5) == 0) {
+                right = early();
+            } else if (random.nextInt(toCome) < objectsToCome) {
+                right = object();
+                objectsToCome--;
+            } else {
+                right = rule();
+                rulesToCome--;
             }
         }
-        return true;
+        return right && (length == CALLS || sameInAll());
     }
 
+    /** Calls behind which objects and RULES may still come. */
     private boolean early() {
-        switch (random.nextInt(4)) {
+        switch (random.nextInt(6)) {
             case 0: return keep();
             case 1: return forget();
             case 2: return begin();
-            default: return mend();
+            case 3: return mend();
+            case 4: return attempt();
+            default: return read();
         }
     }
 
     private boolean any() {
         int pick = random.nextInt(100);
-        if (pick < 45) {
+        if (pick < 40) {
             return change();
         }
-        if (pick < 55) {
+        if (pick < 48) {
             return attempt();
         }
-        if (pick < 68) {
+        if (pick < 58) {
             return undo();
         }
-        switch (random.nextInt(14)) {
+        if (pick < 85) {
+            return read();
+        }
+        switch (random.nextInt(9)) {
             case 0: return random.nextInt(8) == 0 ? fork() : forget();
             case 1: return begin();
             case 2: return end();
@@ -84,8 +102,7 @@ public final class RandomRunsTest {
             case 5: return every();
             case 6: return forget();
             case 7: return object();
-            case 8: return rule();
-            default: return readers();
+            default: return rule();
         }
     }
 
@@ -99,7 +116,7 @@ public final class RandomRunsTest {
     }
 
     private int plan() {
-        return number(0, Math.max(0, model.all(2) - 1));
+        return number(0, model.all(2) - 1);
     }
 
     private int anObject() {
@@ -110,6 +127,10 @@ public final class RandomRunsTest {
         return number(0, model.all(1) - 1);
     }
 
+    private int aKept() {
+        return number(0, model.all(4) - 1);
+    }
+
     private int forMember(int member) {
         switch (member) {
             case 0: return random.nextInt(3) == 0 ? number(-1000, 1000) : number(-3, 3);
@@ -118,9 +139,10 @@ public final class RandomRunsTest {
         }
     }
 
-    private boolean same(String call, long got, long want) {
+    private boolean same(String call, ToLongFunction<ScoreDifferences> make, long want) {
+        made.add(make);
         calls.append(call).append(" = ").append(want).append('\n');
-        return agree(call, got, want);
+        return agree(call, make.applyAsLong(real), want);
     }
 
     private boolean agree(String call, long got, long want) {
@@ -128,8 +150,16 @@ public final class RandomRunsTest {
         return got == want;
     }
 
+    private static String call(String name, Object... numbers) {
+        StringBuilder text = new StringBuilder(name).append('(');
+        for (Object number : numbers) {
+            text.append(text.length() == name.length() + 1 ? "" : ", ").append(number);
+        }
+        return text.append(')').toString();
+    }
+
     private boolean object() {
-        return same("object()", real.object(), model.object());
+        return same("object()", ScoreDifferences::object, model.object());
     }
 
     private boolean rule() {
@@ -138,21 +168,20 @@ public final class RandomRunsTest {
         int c = random.nextInt(4) == 0 ? number(-1000000, 1000000) : number(-5, 5);
         int weight = number(1, 1000);
         int level = number(0, 2);
-        return same("rule(" + kind + ", " + m + ", " + c + ", " + weight + ", " + level + ")",
-            real.rule(kind, m, c, weight, level), model.rule(kind, m, c, weight, level));
+        return same(call("rule", kind, m, c, weight, level),
+            x -> x.rule(kind, m, c, weight, level), model.rule(kind, m, c, weight, level));
     }
 
     private boolean forget() {
         int plan = plan();
         int rule = aRule();
         boolean is = random.nextInt(3) == 0;
-        return same("forget(" + plan + ", " + rule + ", " + is + ")",
-            real.forget(plan, rule, is), model.forget(plan, rule, is));
+        return same(call("forget", plan, rule, is), x -> x.forget(plan, rule, is), model.forget(plan, rule, is));
     }
 
     private boolean fork() {
         int plan = plan();
-        return same("fork(" + plan + ")", real.fork(plan), model.fork(plan));
+        return same(call("fork", plan), x -> x.fork(plan), model.fork(plan));
     }
 
     private boolean change() {
@@ -160,8 +189,8 @@ public final class RandomRunsTest {
         int object = anObject();
         int member = number(0, 2);
         int v = forMember(member);
-        return same("change(" + plan + ", " + object + ", " + member + ", " + v + ")",
-            real.change(plan, object, member, v), model.change(plan, object, member, v));
+        return same(call("change", plan, object, member, v),
+            x -> x.change(plan, object, member, v), model.change(plan, object, member, v));
     }
 
     private boolean attempt() {
@@ -170,90 +199,115 @@ public final class RandomRunsTest {
         int member = number(0, 2);
         int v = forMember(member);
         int level = number(0, 2);
-        return same("attempt(" + plan + ", " + object + ", " + member + ", " + v + ", " + level + ")",
-            real.attempt(plan, object, member, v, level), model.attempt(plan, object, member, v, level));
+        return same(call("attempt", plan, object, member, v, level),
+            x -> x.attempt(plan, object, member, v, level), model.attempt(plan, object, member, v, level));
     }
 
     private boolean undo() {
         int plan = plan();
-        return same("undo(" + plan + ")", real.undo(plan), model.undo(plan));
+        return same(call("undo", plan), x -> x.undo(plan), model.undo(plan));
     }
 
     private boolean begin() {
         int plan = plan();
-        return same("begin(" + plan + ")", real.begin(plan), model.begin(plan));
+        return same(call("begin", plan), x -> x.begin(plan), model.begin(plan));
     }
 
     private boolean end() {
         int plan = plan();
         boolean stays = random.nextBoolean();
-        return same("end(" + plan + ", " + stays + ")", real.end(plan, stays), model.end(plan, stays));
+        return same(call("end", plan, stays), x -> x.end(plan, stays), model.end(plan, stays));
     }
 
     private boolean every() {
         int n = random.nextInt(3) == 0 ? number(0, 100) : number(0, 4);
-        return same("every(" + n + ")", real.every(n), model.every(n));
+        return same(call("every", n), x -> x.every(n), model.every(n));
     }
 
     private boolean mend() {
         int plan = plan();
         int rule = aRule();
-        return same("mend(" + plan + ", " + rule + ")", real.mend(plan, rule), model.mend(plan, rule));
+        return same(call("mend", plan, rule), x -> x.mend(plan, rule), model.mend(plan, rule));
     }
 
     private boolean keep() {
         int plan = plan();
-        return same("keep(" + plan + ")", real.keep(plan), model.keep(plan));
+        return same(call("keep", plan), x -> x.keep(plan), model.keep(plan));
     }
 
-    private boolean readers() {
+    private boolean read() {
         int plan = plan();
-        int a = random.nextInt(4) == 0 ? number(0, 20) : number(0, model.all(4) - 1);
-        int b = anObject();
-        int c = number(0, 5);
-        String numbers = "(" + plan + ", " + a + ", " + b + ", " + c + ")";
-        return same("member " + numbers, real.member(plan, b, c), model.member(plan, b, c))
-            && same("score " + numbers, real.score(plan, c), model.score(plan, c))
-            && same("worth " + numbers, real.worth(plan, b, c), model.worth(plan, b, c))
-            && same("check " + numbers, real.check(plan), model.check(plan))
-            && same("kept " + numbers, real.kept(a, c), model.kept(a, c))
-            && same("then " + numbers, real.then(a, b, c), model.then(a, b, c))
-            && same("told " + numbers, real.told(plan, c), model.told(plan, c))
-            && same("all " + numbers, real.all(c), model.all(c));
+        int object = anObject();
+        int rule = aRule();
+        int number = aKept();
+        int m = number(0, 3);
+        int level = number(0, 2);
+        switch (random.nextInt(8)) {
+            case 0: return same(call("member", plan, object, m), x -> x.member(plan, object, m), model.member(plan, object, m));
+            case 1: return same(call("score", plan, level), x -> x.score(plan, level), model.score(plan, level));
+            case 2: return same(call("check", plan), x -> x.check(plan), model.check(plan));
+            case 3: return same(call("kept", number, level), x -> x.kept(number, level), model.kept(number, level));
+            case 4: return same(call("then", number, object, m), x -> x.then(number, object, m), model.then(number, object, m));
+            case 5: return worth(plan, rule, number(0, 1));
+            case 6: return told(plan, number(0, 5));
+            default: return all(number(0, 4));
+        }
     }
 
-    /** One plan after each call, all of them and what was kept now and then. */
-    private boolean sameState(int i) {
-        boolean whole = i % 32 == 31;
+    private boolean worth(int plan, int rule, int how) {
+        return same(call("worth", plan, rule, how), x -> x.worth(plan, rule, how), model.worth(plan, rule, how));
+    }
+
+    private boolean told(int plan, int what) {
+        return same(call("told", plan, what), x -> x.told(plan, what), model.told(plan, what));
+    }
+
+    private boolean all(int what) {
+        return same(call("all", what), x -> x.all(what), model.all(what));
+    }
+
+    /** The run on a new object, which is good for so many questions more as an object has calls. */
+    private ScoreDifferences again() {
+        if (asked % MOST_QUESTIONS == 0) {
+            again = new ScoreDifferences();
+            for (ToLongFunction<ScoreDifferences> make : made) {
+                make.applyAsLong(again);
+            }
+        }
+        asked++;
+        return again;
+    }
+
+    private boolean sameInAll() {
         boolean right = true;
-        for (int plan = 0; plan <= 4 && right; plan++) {
-            right = !(whole || plan == i % 4) || samePlan(plan);
-        }
-        for (int number = 0; number <= 20 && right && whole; number++) {
-            right = sameKept(number);
-        }
         for (int what = -1; what <= 5; what++) {
-            right = right && agree("all " + what, real.all(what), model.all(what));
+            right = right && agree(call("all", what), again().all(what), model.all(what));
+        }
+        for (int plan = -1; plan <= model.all(2); plan++) {
+            right = right && samePlan(plan);
+        }
+        for (int number = -1; number <= model.all(4); number++) {
+            right = right && sameKept(number);
         }
         return right;
     }
 
     private boolean samePlan(int plan) {
-        boolean right = agree("check " + plan, real.check(plan), model.check(plan));
+        boolean right = agree(call("check", plan), again().check(plan), model.check(plan));
         for (int what = -1; what <= 6; what++) {
-            right = right && agree("told " + plan + " " + what, real.told(plan, what), model.told(plan, what));
-            right = right && agree("score " + plan + " " + what, real.score(plan, what), model.score(plan, what));
+            right = right && agree(call("told", plan, what), again().told(plan, what), model.told(plan, what));
         }
-        for (int r = -1; r <= 12; r++) {
+        for (int level = -1; level <= 3; level++) {
+            right = right && agree(call("score", plan, level), again().score(plan, level), model.score(plan, level));
+        }
+        for (int r = -1; r <= model.all(1); r++) {
             for (int how = -1; how <= 2; how++) {
-                right = right && agree("worth " + plan + " " + r + " " + how,
-                    real.worth(plan, r, how), model.worth(plan, r, how));
+                right = right && agree(call("worth", plan, r, how), again().worth(plan, r, how), model.worth(plan, r, how));
             }
         }
         for (int o = -1; o <= model.all(0); o++) {
             for (int m = -1; m <= 4; m++) {
-                right = right && agree("member " + plan + " " + o + " " + m,
-                    real.member(plan, o, m), model.member(plan, o, m));
+                right = right && agree(call("member", plan, o, m), again().member(plan, o, m), model.member(plan, o, m));
             }
         }
         return right;
@@ -262,12 +316,11 @@ public final class RandomRunsTest {
     private boolean sameKept(int number) {
         boolean right = true;
         for (int level = -1; level <= 3; level++) {
-            right = right && agree("kept " + number + " " + level, real.kept(number, level), model.kept(number, level));
+            right = right && agree(call("kept", number, level), again().kept(number, level), model.kept(number, level));
         }
-        for (int o = -1; o <= 40; o++) {
+        for (int o = -1; o <= model.all(0); o++) {
             for (int m = -1; m <= 4; m++) {
-                right = right && agree("then " + number + " " + o + " " + m,
-                    real.then(number, o, m), model.then(number, o, m));
+                right = right && agree(call("then", number, o, m), again().then(number, o, m), model.then(number, o, m));
             }
         }
         return right;
