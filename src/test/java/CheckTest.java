@@ -110,7 +110,7 @@ public final class CheckTest {
     private static void changeAndFind(ScoreDifferences x, int first, int times, int found) {
         for (int i = 0; i < times; i++) {
             x.change(0, 0, 0, first + i);
-            due.is("FOUND behind CHANGE " + x.told(0, 0), x.told(0, 3), found);
+            due.is("FOUND behind LOAD " + (first + i), x.told(0, 3), found);
         }
     }
 

@@ -173,5 +173,9 @@ final class Scene {
         for (int what = 0; what < 5; what++) {
             see(seen, "all(" + what + ") behind that", x.all(what));
         }
+        see(seen, "check(0) behind that", x.check(0));
+        for (int i = 0; i < 12; i++) {
+            see(seen, "member(0, " + i / 4 + ", " + i % 4 + ") behind that", x.member(0, i / 4, i % 4));
+        }
     }
 }
